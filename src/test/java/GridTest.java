@@ -74,7 +74,7 @@ public final class GridTest {
         drops.dispense(0);
         CHECK.due("a way over a cell that was dead", drops.send(0, 1, 0), 1);
         CHECK.due("the new kind reads", drops.run(1), 1);
-        CHECK.refused("a way onto a cell that is dead", drops, IllegalStateException.class, () -> drops.discard(0));
+        CHECK.refused("the new kind is no sink", drops, IllegalStateException.class, () -> drops.discard(0));
         CHECK.refused("a way onto a cell that is dead", drops, java.util.NoSuchElementException.class, () -> drops.send(0, 0, 1));
     }
 
