@@ -1,10 +1,10 @@
 import java.util.function.Supplier;
 
-/** What the tests share: answers held against what is due, and all that can be seen of an object. */
+/** What the tests share: sentences of the document, each with a test of its own, and answers held against what is due. */
 final class Check {
-    private static final int NUMBERS = 60;
-
     private final String test;
+    private String sentence = "";
+    private int sentences = 0;
     private int asked = 0;
     private int wrong = 0;
 
@@ -12,11 +12,25 @@ final class Check {
         this.test = test;
     }
 
+    /** One test of one sentence; whatever it comes to, the others are made too. */
+    void sentence(String words, Runnable testOfIt) {
+        sentence = words;
+        sentences++;
+        int before = asked;
+        try {
+            testOfIt.run();
+        } catch (RuntimeException e) {
+            fail("broke off with " + e);
+        }
+        if (asked == before) {
+            fail("nothing was asked");
+        }
+    }
+
     void due(String what, long got, long want) {
         asked++;
         if (got != want) {
-            wrong++;
-            System.out.println(test + ": " + what + " answered " + got + ", due is " + want);
+            fail(what + " answered " + got + ", due is " + want);
         }
     }
 
@@ -27,20 +41,52 @@ final class Check {
     void due(String what, String got, String want) {
         asked++;
         if (!got.equals(want)) {
-            wrong++;
-            System.out.println(test + ": " + what + "\n  answered " + got + "\n  due is   " + want);
+            fail(what + "\n  answered " + got + "\n  due is   " + want);
         }
     }
 
+    private void fail(String how) {
+        wrong++;
+        System.out.println(test + ", \"" + sentence + "\": " + how);
+    }
+
     /** The call throws just this exception, and nothing that can be seen has changed by it. */
-    void refused(String what, GuardedDrops drops, Class<? extends RuntimeException> want, Supplier<? extends Number> call) {
-        String before = seen(drops);
+    void refused(String what, Drops drops, Class<? extends RuntimeException> want, Supplier<? extends Number> call) {
+        String before = Seen.of(drops);
         due(what, answer(call), "throws " + want.getName());
-        due(what + " changes nothing", seen(drops), before);
+        due(what + " changes nothing", Seen.of(drops), before);
+    }
+
+    /** The cells on which a droplet will be from now on, the last of them for ever. */
+    void path(String what, Drops drops, int d, int... cells) {
+        for (int n = 0; n < cells.length; n++) {
+            due(what + ": the cell in " + n + " steps", drops.ahead(d, n), cells[n]);
+        }
+        int last = cells[cells.length - 1];
+        due(what + ": the cell a step later", drops.ahead(d, cells.length), last);
+        due(what + ": the cell for ever", drops.ahead(d, Integer.MAX_VALUE), last);
+    }
+
+    void looks(String what, Drops drops, int d, int... answers) {
+        for (int i = 0; i < answers.length; i++) {
+            due(what + ": look(" + d + ", " + i + ")", drops.look(d, i), answers[i]);
+        }
+    }
+
+    void shares(String what, Drops drops, int d, long... answers) {
+        for (int i = 0; i < answers.length; i++) {
+            due(what + ": share(" + d + ", " + i + ")", drops.share(d, i), answers[i]);
+        }
+    }
+
+    void reading(Drops drops, int i, int... answers) {
+        for (int what = 0; what < answers.length; what++) {
+            due("reading(" + i + ", " + what + ")", drops.reading(i, what), answers[what]);
+        }
     }
 
     void end() {
-        System.out.println(test + ": " + asked + " answers, " + wrong + " wrong");
+        System.out.println(test + ": " + sentences + " sentences, " + asked + " answers, " + wrong + " wrong");
         if (wrong != 0 || asked == 0) {
             System.exit(1);
         }
@@ -53,61 +99,5 @@ final class Check {
         } catch (RuntimeException e) {
             return "throws " + e.getClass().getName();
         }
-    }
-
-    /** All that the face tells of an object, as a text. */
-    static String seen(GuardedDrops drops) {
-        StringBuilder text = new StringBuilder();
-        text.append("time ").append(drops.time()).append(" droplets ").append(drops.droplets());
-        text.append(" units ").append(drops.units(0)).append(' ').append(drops.units(1)).append(' ').append(drops.units(2));
-        for (int d = 0; d < NUMBERS; d++) {
-            if (drops.ahead(d, 0) != GuardedDrops.NONE) {
-                appendDroplet(text, drops, d);
-            }
-        }
-        for (int i = 0; !answer(reading(drops, i, 0)).startsWith("throws"); i++) {
-            text.append(" reading");
-            for (int what = 0; what < 4; what++) {
-                text.append(' ').append(drops.reading(i, what));
-            }
-        }
-        text.append(" kinds ");
-        for (int c = 0; c < 64; c++) {
-            text.append(drops.kind(c % 8, c / 8));
-        }
-        return text.toString();
-    }
-
-    private static Supplier<Integer> reading(GuardedDrops drops, int i, int what) {
-        return () -> drops.reading(i, what);
-    }
-
-    private static void appendDroplet(StringBuilder text, GuardedDrops drops, int d) {
-        text.append(" droplet ").append(d).append(" look");
-        for (int what = 0; what < 5; what++) {
-            text.append(' ').append(drops.look(d, what));
-        }
-        text.append(" shares");
-        for (int liquid = 0; liquid < 5; liquid++) {
-            text.append(' ').append(drops.share(d, liquid));
-        }
-        text.append(" ahead");
-        for (int n = 0; n < 63; n++) {
-            text.append(' ').append(drops.ahead(d, n));
-        }
-    }
-
-    /** An object whose cells have the kinds of a drawing, a row of 8 digits for each y, '.' for plain. */
-    static GuardedDrops grid(String... rows) {
-        GuardedDrops drops = new GuardedDrops();
-        for (int y = 0; y < rows.length; y++) {
-            for (int x = 0; x < rows[y].length(); x++) {
-                char kind = rows[y].charAt(x);
-                if (kind != '.' && !drops.cell(x, y, kind - '0')) {
-                    throw new AssertionError("a drawn cell was refused");
-                }
-            }
-        }
-        return drops;
     }
 }

@@ -30,17 +30,31 @@ public final class FaceTest {
 
     public static void main(String[] args) {
         Class<GuardedDrops> face = GuardedDrops.class;
+        CHECK.sentence("public final class GuardedDrops", () -> theClass(face));
+        CHECK.sentence("public static final int NONE = -1;", () -> fields(face));
+        CHECK.sentence("public GuardedDrops();", () -> constructors(face));
+        CHECK.sentence("## The public face", () -> methods(face));
+        CHECK.sentence("## The public face", () -> classesInside(face));
+        CHECK.end();
+    }
+
+    private static void theClass(Class<?> face) {
         CHECK.due("public and final", face.getModifiers(), Modifier.PUBLIC | Modifier.FINAL);
-        methods(face);
-        fields(face);
+        CHECK.due("without a package", face.getName(), "GuardedDrops");
+    }
+
+    private static void constructors(Class<?> face) {
         for (Constructor<?> constructor : face.getDeclaredConstructors()) {
             CHECK.due("the constructor", constructor.toString(), "public GuardedDrops()");
         }
+    }
+
+    private static void classesInside(Class<?> face) {
+        CHECK.due("at most some twelve", face.getDeclaredClasses().length <= 12, true);
         for (Class<?> inside : face.getDeclaredClasses()) {
             CHECK.due(inside + " is static", Modifier.isStatic(inside.getModifiers()), true);
             CHECK.due(inside + " is not public", Modifier.isPublic(inside.getModifiers()), false);
         }
-        CHECK.end();
     }
 
     private static void methods(Class<?> face) {

@@ -2,19 +2,21 @@ import java.util.Map;
 import java.util.Random;
 import java.util.TreeMap;
 import java.util.function.IntPredicate;
-import java.util.function.Supplier;
+import java.util.function.ToLongFunction;
 
 /** Promises 1 to 16 together: long runs of calls, chosen by fixed seeds, held against the plain model. */
 public final class ModelTest {
-    private static final int RUNS = 120;
-    private static final int CALLS = 500;
+    private static final int RUNS = 240;
+    private static final int CALLS = 360;
+    private static final int CALLS_BETWEEN_LOOKS = 12;
 
     private final Check check;
     private final Random random;
     private final int seed;
     private final Map<String, Integer> outcomes;
-    private final GuardedDrops drops = new GuardedDrops();
+    private final Recorded drops = new Recorded();
     private final PlainModel model = new PlainModel();
+    private int made = 0;
 
     private ModelTest(Check check, int seed, Map<String, Integer> outcomes) {
         this.check = check;
@@ -27,22 +29,27 @@ public final class ModelTest {
         Check check = new Check("ModelTest");
         Map<String, Integer> outcomes = new TreeMap<>();
         for (int seed = 0; seed < RUNS; seed++) {
-            new ModelTest(check, seed, outcomes).play();
+            int number = seed;
+            check.sentence("all of it, by run " + seed, () -> new ModelTest(check, number, outcomes).play());
         }
         System.out.println(outcomes);
-        everyOutcomeCame(check, outcomes);
+        check.sentence("all of it", () -> everyOutcomeCame(check, outcomes));
         check.end();
     }
 
     /** A run of calls that never comes to some outcome would test nothing of it. */
     private static void everyOutcomeCame(Check check, Map<String, Integer> outcomes) {
         String[][] wanted = {
+            {"cell", "answers 0", "answers 1"},
             {"dispense", "answers", "IllegalArgument", "NoSuchElement", "IllegalState"},
             {"send", "answers", "IllegalArgument", "NoSuchElement", "IllegalState"},
             {"join", "answers", "IllegalArgument", "NoSuchElement", "IllegalState"},
             {"halve", "answers", "IllegalArgument", "IllegalState"},
             {"discard", "answers", "IllegalArgument", "IllegalState"},
             {"run", "answers", "IllegalArgument"},
+            {"look", "answers", "IllegalArgument"},
+            {"share", "answers", "IllegalArgument"},
+            {"reading", "answers", "IndexOutOfBounds"},
         };
         for (String[] row : wanted) {
             for (int i = 1; i < row.length; i++) {
@@ -54,8 +61,11 @@ public final class ModelTest {
 
     private void play() {
         layOut();
-        for (int i = 0; i < CALLS; i++) {
+        while (made < CALLS) {
             oneCall();
+            if (made % CALLS_BETWEEN_LOOKS == 0 || made >= CALLS) {
+                check.due("seed " + seed + ", after " + made + " calls", Seen.of(drops), Seen.of(model));
+            }
         }
     }
 
@@ -63,7 +73,9 @@ public final class ModelTest {
         int deadOfTen = random.nextInt(3);
         for (int c = 0; c < 64; c++) {
             int kind = random.nextInt(10) < deadOfTen ? 1 : random.nextInt(3) == 0 ? 2 + random.nextInt(6) : 0;
-            cell(c % 8, c / 8, random.nextInt(3) == 0 ? 0 : kind);
+            if (kind != 0 && random.nextInt(3) != 0) {
+                cell(c % 8, c / 8, kind);
+            }
         }
     }
 
@@ -71,72 +83,68 @@ public final class ModelTest {
         int choice = random.nextInt(100);
         if (choice < 14) {
             int liquid = mostly(4);
-            both("dispense(" + liquid + ")", () -> drops.dispense(liquid), () -> model.dispense(liquid));
+            both("dispense", liquid, 0, 0, d -> d.dispense(liquid));
         } else if (choice < 36) {
-            send(mostlySuch(d -> drops.look(d, 2) == 0));
+            send(mostlySuch(d -> model.look(d, 2) == 0));
         } else if (choice < 52) {
             join();
         } else if (choice < 61) {
-            int d = mostlySuch(n -> drops.look(n, 1) == 2);
+            int number = mostlySuch(n -> model.look(n, 1) == 2);
             boolean upright = random.nextBoolean();
-            both("halve(" + d + ", " + upright + ")", () -> drops.halve(d, upright), () -> model.halve(d, upright));
+            both("halve", number, upright ? 1 : 0, 0, d -> d.halve(number, upright));
         } else if (choice < 70) {
-            int d = mostlySuch(this::isOnSink);
-            both("discard(" + d + ")", () -> drops.discard(d), () -> model.discard(d));
-        } else if (choice < 92) {
+            int number = mostlySuch(this::isOnSink);
+            both("discard", number, 0, 0, d -> d.discard(number));
+        } else if (choice < 90) {
             int n = random.nextInt(12) == 0 ? random.nextInt(110) - 4 : random.nextInt(8);
-            both("run(" + n + ")", () -> drops.run(n), () -> model.run(n));
-            sameReadings();
-        } else if (choice < 95) {
+            both("run", n, 0, 0, d -> d.run(n));
+        } else if (choice < 93) {
             cell(mostly(8), mostly(8), mostly(8));
         } else {
             ask(someDroplet());
         }
-        sameState();
     }
 
     private void join() {
-        int d = mostlySuch(n -> drops.look(n, 1) == 1 && drops.look(n, 2) == 0);
-        int e = mostlySuch(n -> n != d && drops.look(n, 1) == 1 && drops.look(n, 2) == 0);
-        both("join(" + d + ", " + e + ")", () -> drops.join(d, e), () -> model.join(d, e));
+        int comer = mostlySuch(n -> model.look(n, 1) == 1 && model.look(n, 2) == 0);
+        int awaited = mostlySuch(n -> n != comer && model.look(n, 1) == 1 && model.look(n, 2) == 0);
+        both("join", comer, awaited, 0, d -> d.join(comer, awaited));
     }
 
-    private void send(int d) {
-        int x = mostly(8);
-        int y = mostly(8);
-        if (random.nextInt(6) < drops.droplets() - 1) {
+    /** The fuller the grid is, the more often to a sink. */
+    private void send(int number) {
+        int place = 8 * random.nextInt(8) + random.nextInt(8);
+        if (random.nextInt(6) < model.droplets() - 1) {
             for (int c = random.nextInt(64); c < 64; c++) {
-                if (drops.kind(c % 8, c / 8) == 2) {
-                    x = c % 8;
-                    y = c / 8;
+                if (model.kind(c % 8, c / 8) == 2) {
+                    place = c;
                     break;
                 }
             }
         }
-        int toX = x;
-        int toY = y;
-        both("send(" + d + ", " + x + ", " + y + ")", () -> drops.send(d, toX, toY), () -> model.send(d, toX, toY));
+        int x = random.nextInt(25) == 0 ? mostly(8) : place % 8;
+        int y = random.nextInt(25) == 0 ? mostly(8) : place / 8;
+        both("send", number, x, y, d -> d.send(number, x, y));
     }
 
     private boolean isOnSink(int d) {
-        int place = drops.look(d, 0);
-        return drops.kind(place % 8, place / 8) == 2;
+        int place = model.look(d, 0);
+        return model.kind(place % 8, place / 8) == 2;
     }
 
     private void cell(int x, int y, int kind) {
-        both("cell(" + x + ", " + y + ", " + kind + ")",
-                () -> drops.cell(x, y, kind) ? 1 : 0, () -> model.cell(x, y, kind) ? 1 : 0);
+        both("cell", x, y, kind, d -> d.cell(x, y, kind) ? 1 : 0);
     }
 
-    private void ask(int d) {
+    private void ask(int number) {
         int what = random.nextInt(8) - 1;
         int n = random.nextInt(80) - 3;
-        both("look(" + d + ", " + what + ")", () -> drops.look(d, what), () -> model.look(d, what));
-        both("share(" + d + ", " + what + ")", () -> drops.share(d, what), () -> model.share(d, what));
-        both("ahead(" + d + ", " + n + ")", () -> drops.ahead(d, n), () -> model.ahead(d, n));
-        both("reading(" + n + ", " + what + ")", () -> drops.reading(n, what), () -> model.reading(n, what));
-        both("units(" + what + ")", () -> drops.units(what), () -> model.units(what));
-        both("kind(" + what + ", " + n + ")", () -> drops.kind(what, n), () -> model.kind(what, n));
+        both("look", number, what, 0, d -> d.look(number, what));
+        both("share", number, what, 0, d -> d.share(number, what));
+        both("ahead", number, n, 0, d -> d.ahead(number, n));
+        both("reading", n, what, 0, d -> d.reading(n, what));
+        both("units", what, 0, 0, d -> d.units(what));
+        both("kind", what, n, 0, d -> d.kind(what, n));
     }
 
     /** Mostly one that there is and that is such, if there is one. */
@@ -144,7 +152,7 @@ public final class ModelTest {
         int start = random.nextInt(60);
         for (int i = 0; i < 60 && random.nextInt(600) != 0; i++) {
             int d = (start + i) % 60;
-            if (drops.ahead(d, 0) != GuardedDrops.NONE && such.test(d)) {
+            if (model.ahead(d, 0) != GuardedDrops.NONE && such.test(d)) {
                 return d;
             }
         }
@@ -153,10 +161,10 @@ public final class ModelTest {
 
     /** Mostly one that there is, sometimes any number. */
     private int someDroplet() {
-        if (drops.droplets() > 0 && random.nextInt(15) != 0) {
+        if (model.droplets() > 0 && random.nextInt(15) != 0) {
             int d = random.nextInt(60);
             for (int i = 0; i < 60; i++) {
-                if (drops.ahead((d + i) % 60, 0) != GuardedDrops.NONE) {
+                if (model.ahead((d + i) % 60, 0) != GuardedDrops.NONE) {
                     return (d + i) % 60;
                 }
             }
@@ -168,50 +176,13 @@ public final class ModelTest {
         return random.nextInt(25) == 0 ? (random.nextBoolean() ? -1 : below) : random.nextInt(below);
     }
 
-    private void both(String call, Supplier<? extends Number> asked, Supplier<? extends Number> due) {
-        String got = Check.answer(asked);
-        check.due("seed " + seed + ": " + call, got, Check.answer(due));
-        String name = call.substring(0, call.indexOf('('));
-        String outcome = got.startsWith("throws")
-                ? got.substring(got.lastIndexOf('.') + 1).replace("Exception", "") : "answers";
-        outcomes.merge(name + " " + outcome, 1, Integer::sum);
-    }
-
-    private void sameState() {
-        both("time()", drops::time, model::time);
-        both("droplets()", drops::droplets, model::droplets);
-        for (int what = 0; what < 3; what++) {
-            int w = what;
-            both("units(" + w + ")", () -> drops.units(w), () -> model.units(w));
-        }
-        for (int d = 0; d < 60; d++) {
-            check.due("seed " + seed + ": ahead(" + d + ", 0)", drops.ahead(d, 0), model.ahead(d, 0));
-            if (model.ahead(d, 0) != GuardedDrops.NONE) {
-                sameDroplet(d);
-            }
-        }
-    }
-
-    private void sameReadings() {
-        boolean there = true;
-        for (int i = 0; i <= 50 && there; i++) {
-            int n = i;
-            there = !Check.answer(() -> model.reading(n, 0)).startsWith("throws");
-            for (int j = 0; j < 4; j++) {
-                int what = j;
-                both("reading(" + n + ", " + what + ")", () -> drops.reading(n, what), () -> model.reading(n, what));
-            }
-        }
-    }
-
-    private void sameDroplet(int d) {
-        for (int i = 0; i < 5; i++) {
-            int what = i;
-            both("look(" + d + ", " + what + ")", () -> drops.look(d, what), () -> model.look(d, what));
-            both("share(" + d + ", " + what + ")", () -> drops.share(d, what), () -> model.share(d, what));
-        }
-        for (int n = 1; n < 62; n++) {
-            check.due("seed " + seed + ": ahead(" + d + ", " + n + ")", drops.ahead(d, n), model.ahead(d, n));
-        }
+    private void both(String name, int a, int b, int c, ToLongFunction<Drops> call) {
+        made++;
+        String got = Check.answer(() -> call.applyAsLong(drops));
+        String due = Check.answer(() -> call.applyAsLong(model));
+        check.due("seed " + seed + ", call " + made + ": " + name + " of " + a + ", " + b + ", " + c, got, due);
+        String outcome = due.startsWith("throws")
+                ? due.substring(due.lastIndexOf('.') + 1).replace("Exception", "") : "answers";
+        outcomes.merge(name + " " + outcome + (name.equals("cell") ? " " + due : ""), 1, Integer::sum);
     }
 }

@@ -4,7 +4,7 @@ import java.util.List;
 import java.util.NoSuchElementException;
 
 /** The document's words, followed as literally and as slowly as can be, to hold the class against. */
-final class PlainModel {
+final class PlainModel implements Drops {
     private static final int NONE = -1;
     /** Shares are held over this power of 2, which no run of joins can exceed. */
     private static final int DEEP = 200;
@@ -33,7 +33,8 @@ final class PlainModel {
     private int letOut = 0;
     private int thrown = 0;
 
-    boolean cell(int x, int y, int kind) {
+    @Override
+    public boolean cell(int x, int y, int kind) {
         if (!inGrid(x, y) || kind < 0 || kind > 7 || !drops.isEmpty()) {
             return false;
         }
@@ -41,7 +42,8 @@ final class PlainModel {
         return true;
     }
 
-    int dispense(int liquid) {
+    @Override
+    public int dispense(int liquid) {
         if (liquid < 0 || liquid > 3) {
             throw new IllegalArgumentException();
         }
@@ -63,7 +65,8 @@ final class PlainModel {
         return add(place, shares);
     }
 
-    int send(int d, int x, int y) {
+    @Override
+    public int send(int d, int x, int y) {
         Drop drop = find(d);
         if (drop == null || !inGrid(x, y)) {
             throw new IllegalArgumentException();
@@ -79,7 +82,8 @@ final class PlainModel {
         return way.size();
     }
 
-    int join(int d, int e) {
+    @Override
+    public int join(int d, int e) {
         Drop comer = find(d);
         Drop awaited = find(e);
         if (comer == null || awaited == null || comer == awaited) {
@@ -98,7 +102,8 @@ final class PlainModel {
         return way.size();
     }
 
-    int halve(int d, boolean upright) {
+    @Override
+    public int halve(int d, boolean upright) {
         Drop drop = find(d);
         if (drop == null) {
             throw new IllegalArgumentException();
@@ -116,7 +121,8 @@ final class PlainModel {
         return number;
     }
 
-    int discard(int d) {
+    @Override
+    public int discard(int d) {
         Drop drop = find(d);
         if (drop == null) {
             throw new IllegalArgumentException();
@@ -129,7 +135,8 @@ final class PlainModel {
         return drop.units;
     }
 
-    int run(int n) {
+    @Override
+    public int run(int n) {
         if (n < 0 || n > 100) {
             throw new IllegalArgumentException();
         }
@@ -177,15 +184,18 @@ final class PlainModel {
         awaited.awaits = NONE;
     }
 
-    int time() {
+    @Override
+    public int time() {
         return time;
     }
 
-    int droplets() {
+    @Override
+    public int droplets() {
         return drops.size();
     }
 
-    int look(int d, int what) {
+    @Override
+    public int look(int d, int what) {
         Drop drop = find(d);
         if (drop == null || what < 0 || what > 4) {
             throw new IllegalArgumentException();
@@ -193,12 +203,14 @@ final class PlainModel {
         return new int[] {drop.cell, drop.units, drop.route.size(), drop.into, drop.awaits}[what];
     }
 
-    int ahead(int d, int n) {
+    @Override
+    public int ahead(int d, int n) {
         Drop drop = find(d);
         return drop == null || n < 0 ? NONE : at(drop, n);
     }
 
-    long share(int d, int liquid) {
+    @Override
+    public long share(int d, int liquid) {
         Drop drop = find(d);
         if (drop == null || liquid < 0 || liquid > 4) {
             throw new IllegalArgumentException();
@@ -212,7 +224,8 @@ final class PlainModel {
         return liquid == 4 ? DEEP - spare : drop.shares[liquid].shiftRight(spare).longValueExact();
     }
 
-    int reading(int i, int what) {
+    @Override
+    public int reading(int i, int what) {
         int kept = Math.min(50, readings.size());
         if (i < 0 || i >= kept || what < 0 || what > 3) {
             throw new IndexOutOfBoundsException();
@@ -220,7 +233,8 @@ final class PlainModel {
         return readings.get(readings.size() - kept + i)[what];
     }
 
-    int units(int what) {
+    @Override
+    public int units(int what) {
         int onGrid = 0;
         for (Drop drop : drops) {
             onGrid += drop.units;
@@ -228,8 +242,14 @@ final class PlainModel {
         return what == 0 ? letOut : what == 1 ? thrown : onGrid;
     }
 
-    int kind(int x, int y) {
+    @Override
+    public int kind(int x, int y) {
         return inGrid(x, y) ? kinds[8 * y + x] : NONE;
+    }
+
+    @Override
+    public PlainModel again() {
+        return this;
     }
 
     private int add(int place, BigInteger[] shares) {
