@@ -24,6 +24,14 @@ public final class ReadingTest {
         drops.send(0, 1, 1);
         CHECK.due("read", drops.run(9), 1);
         CHECK.reading(drops, 0, 0, 7, 9, 1);
+        for (int i = 0; i < 400; i++) {
+            drops.run(100);
+        }
+        drops.send(0, 1, 2);
+        drops.run(1);
+        drops.send(0, 1, 1);
+        CHECK.due("read at a late time", drops.run(1), 1);
+        CHECK.reading(drops, 1, 0, 40016, 9, 1);
     }
 
     /** Later it is halved, thrown away and followed by others; the reading tells what it was. */

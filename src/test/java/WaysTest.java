@@ -13,6 +13,9 @@ public final class WaysTest {
         CHECK.sentence("When two are joined the one that came is gone from that time on.", WaysTest::afterAComerIsGone);
         CHECK.sentence("When two are joined the one that came is gone from that time on.", WaysTest::behindAComer);
         CHECK.sentence("A WAY for a droplet to a cell is a row of moves, at most 60", WaysTest::sixtyMovesToACell);
+        CHECK.sentence("on which it and all others keep clear of each other from now on", WaysTest::letOutNearTheSixtiethMove);
+        CHECK.sentence("keep clear of each other from now on, if it rests on that cell then", WaysTest::sentNearTheSixtiethMove);
+        CHECK.sentence("would not keep clear of each other from now on", WaysTest::halvedNearTheThirtiethMove);
         CHECK.sentence("over cells that are not dead", WaysTest::roundDeadCells);
         CHECK.sentence("over cells that are not dead", WaysTest::noWayOutOfDeadCells);
         CHECK.sentence("it and every other droplet, as these have their routes, keep clear of each other from now on", WaysTest::roundOneThatRests);
@@ -53,6 +56,12 @@ public final class WaysTest {
         drops.send(1, 7, 0);
         CHECK.due("following", drops.send(0, 4, 0), 5);
         CHECK.path("following", drops, 0, 0, 0, 1, 2, 3, 4);
+        Recorded first = Recorded.grid("4.5.....", "11111111");
+        first.dispense(0);
+        first.dispense(1);
+        first.send(1, 7, 0);
+        CHECK.due("near the cell that the other one now leaves", first.send(0, 1, 0), 2);
+        CHECK.path("near the cell that the other one now leaves", first, 0, 0, 0, 1);
         Recorded farther = Recorded.grid("4..5....", "11111111");
         farther.dispense(0);
         farther.dispense(1);
@@ -104,19 +113,30 @@ public final class WaysTest {
         CHECK.refused("near the awaited one", before, NoSuchElementException.class, () -> before.send(2, 3, 1));
     }
 
+    private static final String[] CORRIDOR = {
+        "4...6...", "11.11111", ".1......", ".111111.", ".1......", ".1.11111", "5.......", "11111111"};
+
     /** Three droplets go through one corridor, one after another: the last one's way is as long as its goal is far. */
-    private static Recorded corridor(String... sources) {
-        Recorded drops = Recorded.grid(
-                "4...6...", "11.11111", ".1......", ".111111.", ".1......", ".1.11111", "5.......", "11111111");
-        for (String source : sources) {
-            drops.cell(0, source.charAt(0) - '0', 7);
-        }
-        for (int liquid = 0; liquid < 3 + sources.length; liquid++) {
+    private static Recorded corridor() {
+        Recorded drops = Recorded.grid(CORRIDOR);
+        letOutAndSend(drops);
+        return drops;
+    }
+
+    /** The same, with a source of liquid 3 at the far end. */
+    private static Recorded corridorWithSource(int y) {
+        Recorded drops = Recorded.grid(CORRIDOR);
+        drops.cell(0, y, 7);
+        letOutAndSend(drops);
+        return drops;
+    }
+
+    private static void letOutAndSend(Recorded drops) {
+        for (int liquid = 0; liquid < 3; liquid++) {
             drops.dispense(liquid);
         }
         drops.send(0, 7, 6);
         drops.send(1, 0, 0);
-        return drops;
     }
 
     private static void sixtyMovesToACell() {
@@ -137,7 +157,8 @@ public final class WaysTest {
     }
 
     private static void sixtyMovesIntoADroplet() {
-        Recorded near = corridor("4");
+        Recorded near = corridorWithSource(4);
+        near.dispense(3);
         CHECK.due("60 moves", near.join(2, 3), 60);
         CHECK.due("before the last one", near.ahead(2, 59), 40);
         CHECK.due("behind the last one", near.ahead(2, 60), -1);
@@ -145,10 +166,59 @@ public final class WaysTest {
         CHECK.due("not yet joined", near.look(3, 1), 1);
         near.run(1);
         CHECK.due("joined", near.look(3, 1), 2);
-        Recorded far = corridor("3");
+        Recorded far = corridorWithSource(3);
+        far.dispense(3);
         CHECK.refused("61 moves", far, NoSuchElementException.class, () -> far.join(2, 3));
         far.run(1);
         CHECK.due("60 moves, a step later", far.join(2, 3), 60);
+    }
+
+    /** The source is near the last cell of 60 moves, and not near the one before. */
+    private static void letOutNearTheSixtiethMove() {
+        Recorded drops = corridorWithSource(3);
+        CHECK.due("60 moves", drops.send(2, 0, 4), 60);
+        CHECK.refused("near where it will be in 60 steps", drops, NoSuchElementException.class, () -> drops.dispense(3));
+        drops.run(1);
+        CHECK.refused("in 59 steps", drops, NoSuchElementException.class, () -> drops.dispense(3));
+        Recorded other = corridorWithSource(3);
+        CHECK.due("59 moves", other.send(2, 0, 5), 59);
+        CHECK.due("two cells off", other.dispense(3), 3);
+    }
+
+    private static void sentNearTheSixtiethMove() {
+        Recorded drops = corridorWithSource(2);
+        drops.dispense(3);
+        CHECK.due("60 moves", drops.send(2, 0, 4), 60);
+        CHECK.refused("near where it will be in 60 steps", drops, NoSuchElementException.class, () -> drops.send(3, 0, 3));
+        Recorded other = corridorWithSource(2);
+        other.dispense(3);
+        CHECK.due("59 moves", other.send(2, 0, 5), 59);
+        CHECK.due("two cells off", other.send(3, 0, 3), 1);
+    }
+
+    /** Droplet 0, of 2 units, rests on cell 40; a lane winds down from droplet 2 to cells 58 and 57. */
+    private static Recorded windingLane() {
+        Recorded drops = Recorded.grid(
+                "4.......", "1111111.", ".1......", "61.11111", ".1......", "5111111.", ".1......", "1..11111");
+        drops.dispense(1);
+        drops.dispense(2);
+        drops.join(1, 0);
+        drops.run(2);
+        drops.dispense(0);
+        return drops;
+    }
+
+    /** The lower half would be on cell 48, which is near the last cell of the way, and not near the one before. */
+    private static void halvedNearTheThirtiethMove() {
+        Recorded drops = windingLane();
+        CHECK.due("30 moves", drops.send(2, 1, 7), 30);
+        for (int left = 30; left >= 0; left--) {
+            CHECK.refused("near where it will be in " + left, drops, IllegalStateException.class, () -> drops.halve(0, true));
+            drops.run(1);
+        }
+        Recorded other = windingLane();
+        CHECK.due("29 moves", other.send(2, 2, 7), 29);
+        CHECK.due("two cells off", other.halve(0, true), 3);
     }
 
     private static void roundDeadCells() {
