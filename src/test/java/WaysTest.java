@@ -28,6 +28,8 @@ public final class WaysTest {
         CHECK.sentence("it and every droplet but that one keep clear of each other", WaysTest::noWayIntoOnePastAThird);
         CHECK.sentence("from now up to the time when it comes there", WaysTest::thirdJustBeforeItComesThere);
         CHECK.sentence("from now up to the time when it comes there", WaysTest::thirdAfterItCameThere);
+        CHECK.sentence("When two are joined the one that came is gone from that time on.", WaysTest::comerBehindAComer);
+        CHECK.sentence("from now up to the time when it comes there", WaysTest::comerBeforeAComer);
         CHECK.sentence("Of ways the shortest is taken", WaysTest::waitingIsShorter);
         CHECK.sentence("Of ways the shortest is taken", WaysTest::goingRoundIsShorter);
         CHECK.sentence("Of ways the shortest is taken", WaysTest::roundOrNever);
@@ -296,10 +298,7 @@ public final class WaysTest {
         drops.dispense(0);
         drops.dispense(1);
         CHECK.due("join", drops.join(0, 1), 4);
-        int[] cells = {26, 18, 10, 9, -1};
-        for (int n = 0; n < cells.length; n++) {
-            CHECK.due("the comer's cell in " + n, drops.ahead(0, n), cells[n]);
-        }
+        comerPath(drops, 0, 26, 18, 10, 9);
     }
 
     private static void noWayIntoOnePastAThird() {
@@ -311,10 +310,7 @@ public final class WaysTest {
         CHECK.refused("from the other side", drops, NoSuchElementException.class, () -> drops.join(1, 0));
         drops.send(2, 1, 4);
         CHECK.due("behind the third, which goes away", drops.join(0, 1), 9);
-        int[] cells = {0, 0, 0, 0, 1, 2, 3, 4, 5, -1};
-        for (int n = 0; n < cells.length; n++) {
-            CHECK.due("waits for the third: " + n, drops.ahead(0, n), cells[n]);
-        }
+        comerPath(drops, 0, 0, 0, 0, 0, 1, 2, 3, 4, 5);
     }
 
     /** The third comes to cell 10 at time 4, when the comer, then last on cell 1, would come to its goal. */
@@ -338,6 +334,45 @@ public final class WaysTest {
         drops.run(5);
         CHECK.due("joined", drops.look(0, 1), 2);
         CHECK.due("the third has come", drops.look(2, 0), 10);
+    }
+
+    /**
+     * The first comer is on cell 1 at time 2 and gone at 3. The second one, whose lane leads over cell 10, near
+     * cell 1, can't be there at 3: of the two times 2 and 3 the first one has its cell at one, the second at the other.
+     */
+    private static void comerBehindAComer() {
+        Recorded drops = Recorded.grid("5..41111", "11....71", "11.11111", "11.11111", "11611111", "11111111");
+        dispenseOneOfEach(drops);
+        CHECK.due("the first comer", drops.join(0, 1), 3);
+        CHECK.due("the second one waits a step", drops.join(2, 3), 8);
+        comerPath(drops, 2, 34, 34, 26, 18, 10, 11, 12, 13);
+    }
+
+    /**
+     * The first comer is on cell 17 at time 6 and on cell 33, its last one, at 8. The second one could come to its
+     * goal at 6, but would be on cell 8, near cell 17, at 5; and on cell 40, near cell 33, it can't be before 10.
+     */
+    private static void comerBeforeAComer() {
+        Recorded drops = Recorded.grid(
+                "51111111", ".1111111", ".......6", "..111111", "..711111", ".1111111", "41111111", "11111111");
+        dispenseOneOfEach(drops);
+        CHECK.due("the first comer", drops.join(2, 3), 9);
+        comerPath(drops, 2, 23, 22, 21, 20, 19, 18, 17, 25, 33);
+        CHECK.due("the second one waits till the first is gone", drops.join(0, 1), 15);
+        comerPath(drops, 0, 48, 48, 48, 48, 48, 48, 48, 48, 48, 48, 40, 32, 24, 16, 8);
+    }
+
+    private static void dispenseOneOfEach(Recorded drops) {
+        for (int liquid = 0; liquid < 4; liquid++) {
+            CHECK.due("of liquid " + liquid, drops.dispense(liquid), liquid);
+        }
+    }
+
+    private static void comerPath(Recorded drops, int d, int... cells) {
+        for (int n = 0; n < cells.length; n++) {
+            CHECK.due("the comer's cell in " + n, drops.ahead(d, n), cells[n]);
+        }
+        CHECK.due("then it is gone", drops.ahead(d, cells.length), -1);
     }
 
     private static void waitingIsShorter() {
